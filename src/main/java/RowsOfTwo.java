@@ -1084,7 +1084,9 @@ public final class RowsOfTwo {
                 int start = y >> (yLength - j);
                 if (end == start) {
                     int hits = Integer.bitCount(start) - 1;
-                    sum += Fractions.power(SIXTEENTHS, j) * chanceParts(odds, MOST_LENGTH - hits, MOST_LENGTH - j + hits);
+                    int misses = j - hits;
+                    long rest = chanceParts(odds, MOST_LENGTH - hits, MOST_LENGTH - misses);
+                    sum += Fractions.power(SIXTEENTHS, j) * rest;
                 }
             }
             return sum;
