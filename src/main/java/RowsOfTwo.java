@@ -779,7 +779,6 @@ public final class RowsOfTwo {
         int tests;
         int due;
         int stuckAt;
-        int lettersUsed;
 
         Sentences() {
             letters = new int[MOST_TESTS];
@@ -795,7 +794,6 @@ public final class RowsOfTwo {
             tests = 0;
             due = LETTER;
             stuckAt = NONE;
-            lettersUsed = 0;
         }
 
         void append(int b) {
@@ -837,7 +835,6 @@ public final class RowsOfTwo {
                 return false;
             }
             letters[tests] = which;
-            lettersUsed |= 1 << which;
             due = RELATION;
             return true;
         }
@@ -881,20 +878,24 @@ public final class RowsOfTwo {
 
         /** Whether a WHOLE row HOLDS them; asked only where there is no FAULT. */
         boolean hold(int n, int hits, int pattern) {
-            for (int which = 0; which < NUMBERS; which++) {
-                if (((lettersUsed >> which) & 1) == 1) {
-                    measured[which] = Numbers.measure(which, n, hits, pattern);
-                }
-            }
             boolean allDone = true;
+            int known = 0;
             for (int test = 0; test < tests; test++) {
-                if (test > 0 && opensAlternative[test]) {
+                if (opensAlternative[test]) {
                     if (allDone) {
                         return true;
                     }
                     allDone = true;
                 }
-                allDone = allDone && isDone(test);
+                if (allDone) {
+                    int which = letters[test];
+                    // Asked of every row there is, so no number is measured twice, nor in vain.
+                    if (((known >> which) & 1) == 0) {
+                        measured[which] = Numbers.measure(which, n, hits, pattern);
+                        known |= 1 << which;
+                    }
+                    allDone = isDone(test);
+                }
             }
             return allDone;
         }

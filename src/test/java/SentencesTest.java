@@ -66,6 +66,9 @@ public final class SentencesTest {
         fault("o=1+r=2+l=3+h=4+b=5+f=6+p=7+o=1+r=2+l=3+h=4+b=5+f=6+p=7+o=11", -1);
         fault("o=1+r=2+l=3+h=4+b=5+f=6+p=7+o=1+r=2+l=3+h=4+b=5+f=6+p=7+o=1|", 60);
         fault("o=11+r=22+l=33+h=44+b=55+f=66+p=77+o=11+r=22+l=33+h=44+b=55", -1);
+        RowsOfTwo fresh = new RowsOfTwo();
+        fresh.type('o');
+        Check.due("a text that was never wiped", fresh.fault(), 1);
         RowsOfTwo x = Check.withText("o?");
         x.type('=');
         x.type('1');
@@ -155,6 +158,9 @@ public final class SentencesTest {
         Check.text(x, "o=0");
         Check.due("nth of no sign", x.nth(0, 0), 1);
         Check.due("nth of 15 signs", x.nth(15, 0), 1 << 15);
+        Check.text(x, "o<99");
+        Check.due("the last of all", x.nth(4, 15), 31);
+        Check.due("beyond all", x.nth(4, 16), RowsOfTwo.NONE);
         x.type('+');
         Check.due("a FAULT", x.nth(4, 0), RowsOfTwo.NOT);
         Check.due("BAD ahead of NOT", x.nth(4, -1), RowsOfTwo.BAD);
@@ -245,6 +251,8 @@ public final class SentencesTest {
             Check.due("sure " + i, x.sure(0, i), wantApart[i]);
         }
         Check.due("sure 5", x.sure(0, 5), RowsOfTwo.NOT);
+        Check.signs(x, 2, "0?");
+        Check.due("sure of the last", x.sure(2, 1), 1);
         Check.due("sure of most", x.sure(0, Integer.MAX_VALUE), RowsOfTwo.NOT);
         Check.due("sure -1", x.sure(0, -1), RowsOfTwo.BAD);
         Check.due("sure of no signs", x.sure(1, 0), RowsOfTwo.NOT);
@@ -269,5 +277,13 @@ public final class SentencesTest {
         Check.text(x, "p=0");
         Check.due("p=0", x.shown(4, RowsOfTwo.NONE), 8);
         Check.fraction("p=0", x.share(4, 0), x.share(4, 1), 1, 2);
+        for (int n = 0; n <= 15; n++) {
+            Check.text(x, "o<99");
+            Check.due("all of " + n, x.shown(n, RowsOfTwo.NONE), 1 << n);
+            Check.text(x, "o>99");
+            Check.due("none of " + n, x.shown(n, RowsOfTwo.NONE), 0);
+            Check.text(x, "o=0");
+            Check.due("one of " + n, x.shown(n, RowsOfTwo.NONE), 1);
+        }
     }
 }

@@ -38,9 +38,13 @@ public final class SheetsTest {
         refused(x, "sheet of least", x.sheet(1, 0, LEAST), 5);
         Check.due("sheet 3 stays", x.get(3, 2, 39), 0);
         refused(x, "sheet 1 is still LOST", x.lose(1), 1);
-        x.put(3, 2, 5, 99);
-        Check.due("made anew", x.sheet(3, 2, 6), 6);
-        Check.due("all 0", x.get(3, 2, 5), 0);
+        for (int i = 0; i < 40; i++) {
+            x.put(3, 2, i, 99);
+        }
+        Check.due("made anew", x.sheet(3, 2, 40), 40);
+        for (int i = 0; i < 40; i++) {
+            Check.due("all 0", x.get(3, 2, i), 0);
+        }
     }
 
     private static void lose() {
@@ -192,6 +196,8 @@ public final class SheetsTest {
         for (int what = 0; what < want.length; what++) {
             Check.due("count " + what, x.count(what), want[what]);
         }
+        x.sign(0, RowsOfTwo.NONE);
+        Check.due("row 0 is not WHOLE", x.count(7), 4);
         Check.due("count 9", x.count(9), RowsOfTwo.BAD);
         Check.due("count -1", x.count(-1), RowsOfTwo.BAD);
         Check.due("count least", x.count(LEAST), RowsOfTwo.BAD);
