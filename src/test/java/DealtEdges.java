@@ -223,7 +223,7 @@ final class DealtEdges {
             already("0".repeat(15 - k) + "1".repeat(k), k, 0, 1);
             already("1".repeat(k + 1), k, 1, 1);
             already("1".repeat(15), k, 1, 1);
-            // Of rows with one miss three have such signs: 1 by 1 with it ahead, 0 by 1 behind k hits, 1 by 2 at the end.
+            // Of rows with one miss three have such signs: 1 by 1 (it is ahead), 0 by 1 (behind k hits), 1 by 2 (last).
             already("1".repeat(k) + "01", k, 1, 2);
         }
         already("1011", 2, 1, 2);

@@ -1,3 +1,5 @@
+import java.math.BigInteger;
+
 /** Edges of promises 27 to 34: sheet, lose, put, get, copy, write, count, digest. */
 final class SheetsEdges {
     private static final int NONE = RowsOfTwo.NONE, BAD = RowsOfTwo.BAD;
@@ -45,7 +47,8 @@ final class SheetsEdges {
         Edges.test(32, "NULL.", SheetsEdges::writeLost);
         Edges.test(32, "BAD; NULL.", SheetsEdges::writeBadAheadOfNull);
 
-        Edges.test(33, "0 to 3 signs of ROWS, 4 bytes of SENTENCES, 5 ODDS, 6 THE PATTERN", SheetsEdges::countLeastToMost);
+        Edges.test(33, "0 to 3 signs of ROWS, 4 bytes of SENTENCES, 5 ODDS, 6 THE PATTERN",
+                SheetsEdges::countLeastToMost);
         Edges.test(33, "7 ROWS that are WHOLE (bits)", SheetsEdges::countWholeRows);
         Edges.test(33, "8 the number of the latest FINDING (0 before any).", SheetsEdges::countLatestFinding);
         Edges.test(33, "BAD.", SheetsEdges::countBad);
@@ -664,14 +667,14 @@ final class SheetsEdges {
     private static void digestWraps() {
         // 17 by 31 forty times over is far beyond a long: told again in numbers without an end, then cut.
         RowsOfTwo x = new RowsOfTwo();
-        java.math.BigInteger h = java.math.BigInteger.valueOf(17);
+        BigInteger h = BigInteger.valueOf(17);
         int[] each = {
             0, 0, 0, 0, 0, 8, 3, 15,
             0, 0, 0, 0, 0, 15, 0, 0, 0, 0, 0, 0, 15, 0, 0, 0, 0, 0, 0, 15, 0, 0, 0, 0, 0, 0, 15, 0,
             0, -3, 2, 1, 1
         };
         for (int value : each) {
-            h = h.multiply(java.math.BigInteger.valueOf(31)).add(java.math.BigInteger.valueOf(value));
+            h = h.multiply(BigInteger.valueOf(31)).add(BigInteger.valueOf(value));
         }
         Edges.due("digest of a new object", x.digest(), h.longValue());
     }

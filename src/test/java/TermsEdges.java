@@ -128,7 +128,7 @@ final class TermsEdges {
             for (int c = 1; c < MOST_CALLS; c++) {
                 call.on(x);
             }
-            Edges.due("waits or ODDS by the last call", x.set(0, 9), 8);
+            Edges.due("ODDS by the last call", x.set(0, 9), 8);
         }
         RowsOfTwo y = new RowsOfTwo();
         for (int c = 1; c <= MOST_CALLS / 2; c++) {
@@ -632,30 +632,21 @@ final class TermsEdges {
     }
 
     private static void sureSigns() {
-        RowsOfTwo x = Check.withRow("1?0?");
-        Check.text(x, "o=2");
-        int[] one = {1, NONE, 0, NONE};
-        Check.text(x, "o>0");
-        for (int i = 0; i < 4; i++) {
-            Edges.due("sure(0, " + i + "), all HOLD", x.sure(0, i), one[i]);
-        }
-        Check.text(x, "o=2");
-        for (int i = 0; i < 4; i++) {
-            Edges.due("sure(0, " + i + "), two HOLD", x.sure(0, i), one[i]);
-        }
-        int[] hits = {1, 1, 0, 1};
-        Check.text(x, "o=3");
-        for (int i = 0; i < 4; i++) {
-            Edges.due("sure(0, " + i + "), one HOLDS", x.sure(0, i), hits[i]);
-        }
-        int[] misses = {1, 0, 0, 0};
-        Check.text(x, "o=1");
-        for (int i = 0; i < 4; i++) {
-            Edges.due("sure(0, " + i + "), one HOLDS", x.sure(0, i), misses[i]);
-        }
-        Check.text(x, "o=0");
-        for (int i = 0; i < 4; i++) {
-            Edges.due("sure(0, " + i + "), none HOLDS", x.sure(0, i), NOT);
+        sure("1?0?", "o>0", 1, NONE, 0, NONE);
+        sure("1?0?", "o=2", 1, NONE, 0, NONE);
+        sure("1?0?", "o=3", 1, 1, 0, 1);
+        sure("1?0?", "o=1", 1, 0, 0, 0);
+        sure("1?0?", "o=0", NOT, NOT, NOT, NOT);
+        sure("?1?", "r=1", 1, 1, 1);
+        sure("?1?", "r=2", NONE, 1, NONE);
+        sure("?1?", "r=3", 0, 1, 0);
+    }
+
+    private static void sure(String signs, String text, int... want) {
+        RowsOfTwo x = Check.withText(text);
+        Check.signs(x, 0, signs);
+        for (int i = 0; i < want.length; i++) {
+            Edges.due("sure(0, " + i + ") of " + signs + ", " + text, x.sure(0, i), want[i]);
         }
     }
 
@@ -664,11 +655,9 @@ final class TermsEdges {
             // With one hit there are as many DEALT rows as signs.
             RowsOfTwo x = Check.withRow("1" + "0".repeat(length - 1));
             Edges.due("one hit of " + length, x.dealt(0, 5, false), MILLION / length);
+            // With one miss too: of all of them one alone has it ahead of the first hit.
             RowsOfTwo y = Check.withRow("0" + "1".repeat(length - 1));
-            int few = length == 1 ? MILLION : (int) ((length - 1L) * MILLION / length);
-            Edges.due("one miss of " + length, y.dealt(0, 5, true), length == 1 ? MILLION : MILLION / length);
-            Edges.due("one miss of " + length, Check.withRow("1".repeat(length - 1) + "0").dealt(0, 5, false),
-                    length == 1 ? MILLION : few);
+            Edges.due("one miss of " + length, y.dealt(0, 5, true), MILLION / length);
         }
         Edges.due("no signs", new RowsOfTwo().dealt(0, 0, true), MILLION);
     }

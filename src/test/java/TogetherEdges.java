@@ -230,7 +230,8 @@ final class TogetherEdges {
             int k = many;
             for (int behind = 0; behind < k; behind++) {
                 String signs = unseenAt(14 - behind, 15);
-                Edges.refused("next by " + k + " of " + signs, x -> Check.signs(x, 0, signs), x -> x.next(0, k, 0), NOT);
+                Edges.Start start = x -> Check.signs(x, 0, signs);
+                Edges.refused("next by " + k + " of " + signs, start, x -> x.next(0, k, 0), NOT);
             }
             // Not seen right ahead of the last k: neither it nor the last k signs are behind like ones.
             int all = 14 - 2 * k;
