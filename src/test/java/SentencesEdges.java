@@ -16,6 +16,7 @@ final class SentencesEdges {
         Edges.test(8, "BAD; FULL.", SentencesEdges::typeBadAheadOfFull);
 
         Edges.test(9, "SENTENCES are empty: how many bytes they had.", SentencesEdges::wipeEmptyToFull);
+        Edges.test(9, "SENTENCES are empty", SentencesEdges::wipeOfAFault);
 
         Edges.test(10, "The FAULT;", SentencesEdges::faultFirstToLast);
         Edges.test(10, "NONE.", SentencesEdges::faultNone);
@@ -141,6 +142,20 @@ final class SentencesEdges {
         y.wipe();
         Check.text(y, "o=1+r=2");
         Edges.due("no | is left of them", y.shown(3, NONE), 2);
+    }
+
+    private static void wipeOfAFault() {
+        for (int place = 0; place < 60; place++) {
+            RowsOfTwo x = Check.withText((FIFTY_NINE + "9").substring(0, place) + "x");
+            Edges.due("wipe of a FAULT at " + place, x.wipe(), place + 1);
+            Edges.due("fault()", x.fault(), 0);
+            x.type('o');
+            Edges.due("fault() of o", x.fault(), 1);
+            x.type('=');
+            x.type('1');
+            Edges.due("fault() of o=1", x.fault(), NONE);
+            Edges.due("shown(15, NONE) of o=1", x.shown(15, NONE), 15);
+        }
     }
 
     // ---- promise 10

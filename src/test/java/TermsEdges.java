@@ -410,6 +410,31 @@ final class TermsEdges {
         holds("o=1+o=2|o=3|o=2+l=2+h=2", 1);
         holds("o=1+o=2|o=3|o=2+l=2+h=3", 0);
         holds("o=1+o=2|o=2+o=1", 0);
+        testsInAnyOrder();
+    }
+
+    /** Each two numbers in both orders, each as it is and each by one more, first for another row. */
+    private static void testsInAnyOrder() {
+        String letters = "orlhbfp";
+        // 0110100 with THE PATTERN 01.
+        int[] numbers = {3, 5, 2, 2, 1, 1, 2};
+        for (int one = 0; one < 7; one++) {
+            for (int two = 0; two < 7; two++) {
+                for (int more = 0; more < 4; more++) {
+                    String first = letters.charAt(one) + "=" + (numbers[one] + (more & 1));
+                    String second = letters.charAt(two) + "=" + (numbers[two] + (more >> 1));
+                    RowsOfTwo x = Check.withRow("0110100");
+                    x.set(1, 5);
+                    Check.signs(x, 1, "111111110000");
+                    Check.text(x, first + "+" + second);
+                    Edges.due("111111110000 " + first + "+" + second, x.holds(1), 0);
+                    Edges.due("0110100 " + first + "+" + second, x.holds(0), more == 0 ? 1 : 0);
+                    Check.text(x, first + "|" + second);
+                    x.holds(1);
+                    Edges.due("0110100 " + first + "|" + second, x.holds(0), more == 3 ? 0 : 1);
+                }
+            }
+        }
     }
 
     private static void theFirstFault() {
