@@ -6,6 +6,7 @@ import java.nio.file.Files;
 import java.nio.file.Path;
 import java.util.Set;
 import java.util.TreeSet;
+import java.util.regex.Matcher;
 import java.util.regex.Pattern;
 
 /** The public face, and those rules of LANGUAGE.md that can be looked at from outside; run in the project's root. */
@@ -24,15 +25,33 @@ public final class LanguageTest {
         "native", "equals", "hashCode", "toString", "double", "float", "System\\.(?!arraycopy)\\w+", "\\w+Exact",
         "static\\s*\\{", "->", "::", "Object", "Thread"
     };
+    /** What the class uses of the library; rule 4 leaves more, and whoever uses more looks there first. */
+    private static final Set<String> LIBRARY =
+            Set.of("Integer.bitCount", "Math.max", "Math.min", "System.arraycopy", "LETTERS.indexOf");
     private static final int MOST_LINES = 60;
     private static final int MOST_FIELDS = 20;
     private static final int MOST_CLASSES = 12;
 
     public static void main(String[] args) throws Exception {
+        documentFace();
         face();
         classesInside();
         source();
         Check.end();
+    }
+
+    /** FACE and the constants stand here as the document has them. */
+    private static void documentFace() throws Exception {
+        String document = Files.readString(Path.of("../shared/DOC.md"));
+        Set<String> told = new TreeSet<>();
+        Matcher method = Pattern.compile("public ((?:int|long) \\w+)\\(([^)]*)\\);").matcher(document);
+        while (method.find()) {
+            told.add(method.group(1) + "(" + method.group(2).replaceAll(" \\w+(, )?", ",").replaceAll(",$", "") + ")");
+        }
+        Check.holds("the document's face is " + told, told.equals(new TreeSet<>(Set.of(FACE))));
+        String constants = "NONE = " + RowsOfTwo.NONE + ", BAD = " + RowsOfTwo.BAD + ", NOT = " + RowsOfTwo.NOT
+                + ", FULL = " + RowsOfTwo.FULL + ";";
+        Check.holds("the document has " + constants, document.contains("public static final int " + constants));
     }
 
     private static void face() {
@@ -99,6 +118,7 @@ public final class LanguageTest {
             String bounded = word.matches("\\w+") ? "\\b" + word + "\\b" : word;
             Check.holds("no " + word, !Pattern.compile(bounded).matcher(bare).find());
         }
+        library(bare);
         int opened = 0;
         String[] lines = source.split("\n");
         for (int i = 0; i < lines.length; i++) {
@@ -110,6 +130,18 @@ public final class LanguageTest {
                 opened = 0;
             }
             Check.holds("line " + (i + 1) + " is not too long", lines[i].length() <= 120);
+        }
+    }
+
+    private static void library(String bare) {
+        Set<String> own = new TreeSet<>();
+        for (Class<?> inside : RowsOfTwo.class.getDeclaredClasses()) {
+            own.add(inside.getSimpleName());
+        }
+        Matcher used = Pattern.compile("\\b([A-Z]\\w*)\\.\\w+(?=\\()").matcher(bare);
+        while (used.find()) {
+            Check.holds(used.group() + " is of the library's part",
+                    own.contains(used.group(1)) || LIBRARY.contains(used.group()));
         }
     }
 }
