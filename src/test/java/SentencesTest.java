@@ -13,6 +13,7 @@ public final class SentencesTest {
         filled();
         sure();
         changesAreSeen();
+        unseenRowsAreLots();
         Check.end();
     }
 
@@ -284,6 +285,25 @@ public final class SentencesTest {
             Check.due("none of " + n, x.shown(n, RowsOfTwo.NONE), 0);
             Check.text(x, "o=0");
             Check.due("one of " + n, x.shown(n, RowsOfTwo.NONE), 1);
+        }
+    }
+
+    /** The FILLS of a ROW of which no sign was seen are all rows of its length. */
+    private static void unseenRowsAreLots() {
+        for (String text : new String[] {"o>7", "r=8|p>3", "l<4+b>2", "f=15", "h>3+f<2|r>12", "p=0"}) {
+            RowsOfTwo x = Check.withText(text);
+            x.set(1, 21);
+            for (int n = 0; n <= 15; n++) {
+                String call = "of " + n + " signs not seen, " + text;
+                int many = x.shown(n, RowsOfTwo.NONE);
+                x.set(0, 1 + 7 * n % 15);
+                Check.due("fills 0 " + call, x.fills(2, 0), 1 << n);
+                Check.due("fills 1 " + call, x.fills(2, 1), many);
+                Check.fraction("filled " + call, x.filled(2, 0), x.filled(2, 1), x.share(n, 0), x.share(n, 1));
+                Check.due("nth beyond " + call, x.nth(n, many), RowsOfTwo.NONE);
+                Check.holds("nth last " + call, many == 0 || x.nth(n, many - 1) >= 1 << n);
+                x.sign(2, RowsOfTwo.NONE);
+            }
         }
     }
 }
